@@ -13,6 +13,7 @@ public final class AgreementTests {
     private LiteralHouse literal;
     private int profile;
     private int calls;
+    private int alone;
 
     // What the runs came to, so that a driver that no longer reaches far is seen.
     private static int deepestView;
@@ -56,6 +57,11 @@ public final class AgreementTests {
         literal = new LiteralHouse();
         profile = run % 8;
         for (int i = 0; i < CHANGING && Check.wrongSoFar() == 0; i++) {
+            // One that gets nothing for long has much that waits, of both others.
+            alone = profile % 4 >= 2 && i % 130 < 100 ? (run / 8 + i / 130) % 3 : LiteralHouse.NONE;
+            if (i % 130 == 100 && profile % 4 >= 2) {
+                sendBackwards(run, (run / 8 + i / 130) % 3);
+            }
             change(run);
             if (chance(10)) {
                 look(run);
@@ -122,7 +128,25 @@ public final class AgreementTests {
         if (n > 0 && (k > n || chance(25))) {
             k = 1 + below(n);
         }
-        both(run, 2, from, k, to);
+        if (to == alone) {
+            return;
+        }
+        if (chance(3)) {
+            sendBackwards(run, to);
+        } else {
+            both(run, 2, from, k, to);
+        }
+    }
+
+    /** The last first, so that one call frees many MESSAGES of both others at once. */
+    private void sendBackwards(int run, int to) {
+        for (int step = 1; step <= 2; step++) {
+            int from = (to + step) % 3;
+            int first = literal.servers[to].next[from];
+            for (int k = Math.min(literal.certified.get(from).size(), first + 15); k >= first; k--) {
+                both(run, 2, from, k, to);
+            }
+        }
     }
 
     private void doLie(int run, int liar) {
