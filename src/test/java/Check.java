@@ -1,15 +1,19 @@
+import java.io.IOException;
+import java.nio.file.Files;
+import java.nio.file.Path;
+
 /** Counts what is not as due; each test's main ends with Check.end(). */
 final class Check {
     interface Call {
         void run();
     }
 
-    interface Answer {
-        long get();
-    }
+    private static final Path DOCUMENT = Path.of("../shared/DOC.md");
 
     private static int wrong;
     private static int asked;
+    private static int sentences;
+    private static String document;
 
     private Check() {
     }
@@ -47,11 +51,45 @@ final class Check {
         }
     }
 
+    /**
+     * A test that stands for one sentence of the document. The words must stand there as they are
+     * cited, so that a test whose ground was changed is seen.
+     */
+    static void sentence(String words, Call test) {
+        sentences++;
+        yes("stands in the document: " + words, documentText().contains(words));
+        int before = wrong;
+        try {
+            test.run();
+        } catch (RuntimeException e) {
+            wrong++;
+            System.out.println("threw " + e + " at " + e.getStackTrace()[0]);
+        }
+        if (wrong != before) {
+            System.out.println("-- does not hold: " + words);
+        }
+    }
+
+    private static String documentText() {
+        if (document == null) {
+            try {
+                document = Files.readString(DOCUMENT).replaceAll("\\s+", " ");
+            } catch (IOException e) {
+                document = "";
+                System.out.println("no document at " + DOCUMENT);
+            }
+        }
+        return document;
+    }
+
     static int wrongSoFar() {
         return wrong;
     }
 
     static void end(String name) {
+        if (sentences > 0) {
+            System.out.println(name + ": " + sentences + " sentences of the document");
+        }
         System.out.println(name + ": " + asked + " answers looked at, " + wrong + " not as due");
         if (wrong != 0) {
             System.exit(1);

@@ -1,10 +1,5 @@
 /** The promises one by one, each with its ordinary ways, its edges and its wrong inputs. */
-public final class PromiseTests {
-    private static final Class<IndexOutOfBoundsException> INDEX = IndexOutOfBoundsException.class;
-    private static final Class<IllegalArgumentException> ARGUMENT = IllegalArgumentException.class;
-    private static final Class<IllegalStateException> STATE = IllegalStateException.class;
-    private static final int NONE = CountedHouse.NONE;
-
+public final class PromiseTests extends HouseSteps {
     public static void main(String[] args) {
         newObject();
         request();
@@ -40,36 +35,6 @@ public final class PromiseTests {
         openingNeedsTwoVotes();
         longestHistory();
         Check.end("PromiseTests");
-    }
-
-    /** Brings one more MESSAGE than was READ so far, as often as there is one. */
-    private static void sendRest(CountedHouse h, int from, int to) {
-        for (int i = 0; i < 100 && h.state(to, 6 + from) <= h.state(from, 2); i++) {
-            h.send(from, h.state(to, 6 + from), to);
-        }
-    }
-
-    /** Servers 1 and 2 go to VIEW 1 without server 0; server 1 opens it, all of 1 and 2 is READ by both. */
-    private static void openViewOne(CountedHouse h) {
-        h.late(1);
-        h.late(2);
-        h.ask(1, 2);
-        h.ask(2, 1);
-        sendRest(h, 2, 1);
-        sendRest(h, 1, 2);
-        sendRest(h, 2, 1);
-    }
-
-    private static void says(String what, CountedHouse h, int server, int... due) {
-        for (int i = 0; i < due.length; i++) {
-            Check.eq(what + ": state(" + server + ", " + i + ")", h.state(server, i), due[i]);
-        }
-    }
-
-    private static void isMessage(String what, CountedHouse h, int server, int k, int... due) {
-        for (int i = 0; i < due.length; i++) {
-            Check.eq(what + ": message(" + server + ", " + k + ", " + i + ")", h.message(server, k, i), due[i]);
-        }
     }
 
     private static void newObject() {
