@@ -66,6 +66,8 @@ public final class PromiseBoundsTests extends HouseSteps {
         Check.sentence("9 to 12 what its MAP has", PromiseBoundsTests::stateWhat);
         Check.sentence("REQUEST k of a SERVER's HISTORY, from 0 on; NONE without one.",
                 PromiseBoundsTests::historyEnds);
+        Check.sentence("REQUEST k of a SERVER's HISTORY, from 0 on; NONE without one.",
+                PromiseBoundsTests::longHistory);
         Check.sentence("of a COMMIT the number; 0 where there is none", PromiseBoundsTests::messageParts);
         Check.sentence("IndexOutOfBoundsException also: no such MESSAGE", PromiseBoundsTests::messageNumbers);
         Check.sentence("IllegalArgumentException: another what.", PromiseBoundsTests::messageWhat);
@@ -632,6 +634,47 @@ public final class PromiseBoundsTests extends HouseSteps {
         CountedHouse g = busyFollower(100);
         Check.eq("the hundredth", g.history(1, 99), 0);
         Check.eq("none behind it", g.history(1, 100), NONE);
+    }
+
+    /** From the first to the last of these, in order: as long as a run of calls lets them be sent. */
+    private static void send(CountedHouse h, int from, int first, int last, int to) {
+        for (int k = first; k <= last; k++) {
+            h.send(from, k, to);
+        }
+    }
+
+    private static void longHistory() {
+        // 48 in VIEW 0 by servers 0 and 1, 48 in VIEW 1 by 1 and 2, 46 in VIEW 2 by 2 and 0.
+        CountedHouse h = new CountedHouse();
+        for (int i = 0; i < 48; i++) {
+            h.request(0, 2, 0, 1);
+            h.bring(i, 0);
+        }
+        send(h, 0, 1, 48, 1);
+        bothLate(h, 1, 2);
+        h.send(2, 1, 1);
+        for (int i = 0; i < 48; i++) {
+            h.bring(i, 1);
+        }
+        send(h, 1, 1, 98, 2);
+        bothLate(h, 1, 2);
+        h.send(1, 99, 2);
+        for (int i = 0; i < 46; i++) {
+            h.bring(i, 2);
+        }
+        h.ask(1, 0);
+        h.ask(2, 0);
+        send(h, 2, 1, 98, 0);
+        says("server 0 did all", h, 0, 2, 1, 96, 142);
+        bothLate(h, 0, 2);
+        Check.eq("READ", h.send(2, 99, 0), 1);
+        isMessage("VIEW 3 is open", h, 0, 98, NEW, 3, 97 * 3, 99 * 3 + 2, 0);
+        int[][] due = {{0, 0}, {47, 47}, {48, 0}, {95, 47}, {96, 0}, {141, 45}, {142, NONE}};
+        for (int[] d : due) {
+            Check.eq("history " + d[0], h.history(0, d[0]), d[1]);
+            Check.eq("row " + d[0], h.row(3, d[0]), d[1]);
+        }
+        Check.eq("each with effect once", h.state(0, 9), 48);
     }
 
     private static void messageParts() {

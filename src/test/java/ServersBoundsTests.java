@@ -32,8 +32,11 @@ public final class ServersBoundsTests extends HouseSteps {
         Check.sentence("or of its own while it is not ACTIVE, WAITS", ServersBoundsTests::ownViewWaits);
         Check.sentence("unless it is VOID: VOID ones are READ and do nothing", ServersBoundsTests::voidNeverWaits);
         Check.sentence("so are those of a lower VIEW", ServersBoundsTests::lowerViewDoesNothing);
+        Check.sentence("as long as there is one", ServersBoundsTests::hundredAndItsOwn);
         Check.sentence("another SERVER than the LEADER certifies a COMMIT of it",
                 ServersBoundsTests::leaderCommitsNothing);
+        Check.sentence("COMMIT of its VIEW: its MESSAGE has this SERVER's vote.",
+                ServersBoundsTests::votesOfAnotherView);
     }
 
     private static void changes() {
@@ -51,6 +54,7 @@ public final class ServersBoundsTests extends HouseSteps {
         Check.sentence("or of its own while it is not ACTIVE: its VIEW is that, ACTIVE",
                 ServersBoundsTests::newOfOwnView);
         Check.sentence("there are no PREPARES of it yet", ServersBoundsTests::preparesOfAnotherViewAreGone);
+        Check.sentence("there are no PREPARES of it yet", ServersBoundsTests::preparesBeginAnew);
         Check.sentence("Other MESSAGES do nothing.", ServersBoundsTests::newOfLowerView);
         Check.sentence("Other MESSAGES do nothing.", ServersBoundsTests::newOfActiveView);
     }
@@ -65,6 +69,7 @@ public final class ServersBoundsTests extends HouseSteps {
         Check.sentence("behind an OPENING that was done, PREPARE by PREPARE in order",
                 ServersBoundsTests::prepareBehindOpening);
         Check.sentence("as long as the next one has two votes", ServersBoundsTests::nextWithoutVote);
+        Check.sentence("as long as the next one has two votes", ServersBoundsTests::sixtyAtOnce);
         Check.sentence("if its number is above that of the last one of this CLIENT that was done with effect",
                 ServersBoundsTests::numberNotAbove);
         Check.sentence("else there is no effect", ServersBoundsTests::noEffect);
@@ -90,6 +95,8 @@ public final class ServersBoundsTests extends HouseSteps {
     private static void clients() {
         Check.sentence("a REQUEST is ANSWERED (and stays so)", ServersBoundsTests::staysAnswered);
         Check.sentence("as soon as the REPLIES of two SERVERS that its CLIENT has", ServersBoundsTests::twoServers);
+        Check.sentence("as soon as the REPLIES of two SERVERS that its CLIENT has",
+                ServersBoundsTests::requestsAreApart);
         Check.sentence("of each the one that was brought last", ServersBoundsTests::broughtLast);
         Check.sentence("have the same result: with that", ServersBoundsTests::answeredWithNought);
     }
@@ -238,6 +245,42 @@ public final class ServersBoundsTests extends HouseSteps {
         says("is not committed", h, 1, 1, 0, 1, 0, 0, 1, 2, 2, 1);
         Check.eq("a COMMIT of VIEW 0", h.send(2, 1, 0), 1);
         says("is no vote: it is not done", h, 0, 1, 0, 2, 0, 0, 1, 3, 1, 2);
+    }
+
+    private static void hundredAndItsOwn() {
+        CountedHouse h = new CountedHouse();
+        h.request(0, 2, 0, 1);
+        h.lie(0);
+        for (int k = 1; k <= 100; k++) {
+            h.certify(0, PREPARE, 0, 0, 0);
+        }
+        for (int k = 100; k >= 2; k--) {
+            Check.eq("ahead of its turn", h.send(0, k, 1), 0);
+        }
+        Check.eq("a hundred", h.send(0, 1, 1), 100);
+        says("and its own hundred", h, 1, 0, 1, 100, 100, 0, NONE, 101, 101, 1, 1);
+    }
+
+    private static void votesOfAnotherView() {
+        // Server 1 has READ server 2's COMMITS of numbers 1 to 5 in VIEW 0, not the PREPARES; its NEW is number 2.
+        CountedHouse h = new CountedHouse();
+        for (int i = 0; i < 5; i++) {
+            h.request(i % 4, 2, 0, 1);
+            h.bring(i, 0);
+            h.send(0, i + 1, 2);
+            h.send(2, i + 1, 1);
+        }
+        bothLate(h, 1, 2);
+        h.send(2, 6, 1);
+        isMessage("the OPENING", h, 1, 2, NEW, 1, 4, 20, 0);
+        historyIs("votes of VIEW 0 are none for it", h, 1);
+        h.bring(0, 1);
+        historyIs("nor for its PREPARE", h, 1);
+        sendRest(h, 1, 2);
+        Check.eq("the COMMIT of the OPENING", h.send(2, 7, 1), 1);
+        historyIs("the ROW alone", h, 1, 0, 1, 2, 3, 4);
+        Check.eq("the COMMIT of the PREPARE", h.send(2, 8, 1), 1);
+        historyIs("and the PREPARE", h, 1, 0, 1, 2, 3, 4, 0);
     }
 
     private static void leaderCommitsNothing() {
@@ -399,6 +442,24 @@ public final class ServersBoundsTests extends HouseSteps {
         says("that of VIEW 1 alone", h, 0, 1, 1, 4, 1, 0, NONE, 5, 4, 1, 0, 6);
     }
 
+    private static void preparesBeginAnew() {
+        // Server 2 did two in VIEW 0; the first of VIEW 1 is done as the next one.
+        CountedHouse h = new CountedHouse();
+        for (int i = 0; i < 3; i++) {
+            h.request(i, 2, 0, 1);
+        }
+        h.bring(0, 0);
+        h.bring(1, 0);
+        sendRest(h, 0, 2);
+        openViewOne(h);
+        historyIs("two in VIEW 0", h, 2, 0, 1);
+        h.bring(2, 1);
+        sendRest(h, 1, 2);
+        historyIs("and one in VIEW 1", h, 2, 0, 1, 2);
+        sendRest(h, 2, 1);
+        historyIs("its LEADER likewise", h, 1, 0, 1, 2);
+    }
+
     private static void newOfLowerView() {
         CountedHouse h = new CountedHouse();
         openViewOne(h);
@@ -513,6 +574,21 @@ public final class ServersBoundsTests extends HouseSteps {
             Check.eq("a vote for " + votes[i], h.state(0, 3), done[i]);
         }
         historyIs("in order", h, 0, 0, 1, 2, 3);
+    }
+
+    private static void sixtyAtOnce() {
+        CountedHouse h = new CountedHouse();
+        h.lie(2);
+        for (int i = 0; i < 60; i++) {
+            h.request(i % 4, 2, 0, 1);
+            h.bring(i, 0);
+        }
+        for (int k = 1; k <= 60; k++) {
+            h.certify(2, COMMIT, 0, 61 - k, 0);
+            h.send(2, k, 0);
+            Check.eq("done", h.state(0, 3), k == 60 ? 60 : 0);
+        }
+        Check.eq("each with effect", h.state(0, 9), 60);
     }
 
     private static void numberNotAbove() {
@@ -782,6 +858,24 @@ public final class ServersBoundsTests extends HouseSteps {
             Check.eq("the other two", g.reply((liar + 2) % 3, 0), 1);
             Check.eq("with theirs", g.told(0, 3), 6);
         }
+    }
+
+    private static void requestsAreApart() {
+        // All have the result 6 at each KEY: REPLIES to one REQUEST answer no other one.
+        CountedHouse h = new CountedHouse();
+        for (int i = 0; i < 60; i++) {
+            h.request(i % 4, i < 4 ? 2 : 0, i % 4, 6);
+            h.bring(i, 0);
+            h.send(0, i + 1, 1);
+            h.send(0, i + 1, 2);
+        }
+        for (int r = 0; r < 60; r++) {
+            Check.eq("one REPLY to " + r, h.reply(r % 2 + 1, r), 0);
+        }
+        for (int r = 0; r < 60; r++) {
+            Check.eq("two REPLIES to " + r, h.reply(2 - r % 2, r), 1);
+        }
+        Check.eq("the last", h.told(59, 3), 6);
     }
 
     private static void broughtLast() {

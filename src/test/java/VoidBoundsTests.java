@@ -50,6 +50,7 @@ public final class VoidBoundsTests extends HouseSteps {
         Check.sentence("its number is that of a PREPARE of w of the LEADER that is not VOID",
                 VoidBoundsTests::voidPrepareIsNotCommitted);
         Check.sentence("or of the OPENING of w, certified ahead of it", VoidBoundsTests::commitOfOpening);
+        Check.sentence("or of the OPENING of w, certified ahead of it", VoidBoundsTests::openingOfNumberOne);
         Check.sentence("or of the OPENING of w, certified ahead of it", VoidBoundsTests::commitAhead);
     }
 
@@ -76,8 +77,10 @@ public final class VoidBoundsTests extends HouseSteps {
         Check.sentence("the ROW of u, and behind it the REQUESTS of those PREPARES of u",
                 VoidBoundsTests::rowBehindRow);
         Check.sentence("in order of their numbers", VoidBoundsTests::rowInOrderEachOnce);
+        Check.sentence("in order of their numbers", VoidBoundsTests::rowOfTheHundredth);
         Check.sentence("(when i or j is u's LEADER)", VoidBoundsTests::rowOfLeader);
         Check.sentence("or that such a COMMIT of i or j tells", VoidBoundsTests::rowWithoutTheThird);
+        Check.sentence("or that such a COMMIT of i or j tells", VoidBoundsTests::rowsDoNotMix);
     }
 
     /** Server 1 lies; servers 0 and 2 went to VIEW 1, which it leads, and it has a CHANGE to it too. */
@@ -312,6 +315,21 @@ public final class VoidBoundsTests extends HouseSteps {
         CountedHouse g = new CountedHouse();
         g.lie(2);
         Check.eq("none of VIEW 0", voidOf(g, 2, COMMIT, 0, 0, 0), 1);
+    }
+
+    private static void openingOfNumberOne() {
+        // A liar may open VIEW 1 with the CHANGES of the other two, without one of its own.
+        CountedHouse h = new CountedHouse();
+        h.request(0, 1, 0, 5);
+        h.lie(1);
+        bothLate(h, 0, 2);
+        Check.eq("its first", voidOf(h, 1, NEW, 1, OF_2, OF_0), 0);
+        Check.eq("its second", voidOf(h, 1, PREPARE, 1, 0, 0), 0);
+        h.send(1, 1, 0);
+        h.send(1, 2, 0);
+        isMessage("the COMMIT of number 1", h, 0, 2, COMMIT, 1, 1, 0, 0);
+        isMessage("the COMMIT of number 2", h, 0, 3, COMMIT, 1, 2, 0, 0);
+        historyIs("both have two votes", h, 0, 0);
     }
 
     private static void commitAhead() {
@@ -607,5 +625,47 @@ public final class VoidBoundsTests extends HouseSteps {
         h.send(0, 1, 1);
         openViewOne(h);
         rowIs("what servers 1 and 2 know of", h, 1, 0);
+    }
+
+    private static void rowOfTheHundredth() {
+        CountedHouse h = new CountedHouse();
+        h.request(0, 1, 0, 5);
+        h.lie(0);
+        for (int k = 1; k <= 99; k++) {
+            h.certify(0, CHANGE, 0, 0, 0);
+            h.send(0, k, 1);
+        }
+        Check.eq("its last", voidOf(h, 0, PREPARE, 0, 0, 0), 0);
+        Check.eq("READ", h.send(0, 100, 1), 1);
+        isMessage("committed", h, 1, 1, COMMIT, 0, 100, 0, 0);
+        historyIs("done", h, 1, 0);
+        bothLate(h, 1, 2);
+        h.send(2, 1, 1);
+        rowIs("number 100", h, 1, 0);
+    }
+
+    private static void rowsDoNotMix() {
+        // VIEW 1 opens with server 0's numbers 1 to 4; of server 1's own 3 and 4 in VIEW 1 server 2 knows one.
+        CountedHouse h = new CountedHouse();
+        for (int i = 0; i < 4; i++) {
+            h.request(i, 1, 0, i);
+            h.bring(i, 0);
+        }
+        bothLate(h, 0, 1);
+        sendRest(h, 0, 1);
+        rowIs("VIEW 1", h, 1, 0, 1, 2, 3);
+        h.bring(3, 1);
+        h.bring(2, 1);
+        isMessage("the fourth of server 1", h, 1, 4, PREPARE, 1, 2, 0, 0);
+        for (int k = 1; k <= 3; k++) {
+            h.send(1, k, 2);
+        }
+        says("server 2 committed the third", h, 2, 1, 1, 2, 5);
+        bothLate(h, 0, 2);
+        for (int k = 1; k <= 6; k++) {
+            h.send(0, k, 2);
+        }
+        isMessage("VIEW 2 is open", h, 2, 4, NEW, 2, 11, 18, 0);
+        rowIs("VIEW 2", h, 2, 0, 1, 2, 3, 3);
     }
 }
