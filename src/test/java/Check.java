@@ -9,6 +9,7 @@ final class Check {
     }
 
     private static final Path DOCUMENT = Path.of("../shared/DOC.md");
+    private static final Path SOURCE = Path.of("src/main/java/CountedHouse.java");
 
     private static int wrong;
     private static int asked;
@@ -70,16 +71,25 @@ final class Check {
         }
     }
 
-    private static String documentText() {
+    static String documentText() {
         if (document == null) {
-            try {
-                document = Files.readString(DOCUMENT).replaceAll("\\s+", " ");
-            } catch (IOException e) {
-                document = "";
-                System.out.println("no document at " + DOCUMENT);
-            }
+            document = textOf(DOCUMENT);
         }
         return document;
+    }
+
+    static String sourceText() {
+        return textOf(SOURCE);
+    }
+
+    /** With one blank between words, however the lines are broken; none if there is no such file. */
+    private static String textOf(Path path) {
+        try {
+            return Files.readString(path).replaceAll("\\s+", " ");
+        } catch (IOException e) {
+            System.out.println("nothing at " + path);
+            return "";
+        }
     }
 
     static int wrongSoFar() {
